@@ -35,11 +35,11 @@ public final class EldestSays {
   private static final int REFUSED = 1000000000;
   private static final long REFUSED_LONG = 4000000000000000000L;
 
-  private final Evening now = new Evening();
-  private final Evening kept = new Evening();
-  private final Evening trial = new Evening();
   private final Plans plans;
   private final Plans trialPlans;
+  private final Evening now;
+  private final Evening trial;
+  private final Evening kept = new Evening();
   private final Letters letters = new Letters();
   private final Crowd crowd;
   private final int[] order = new int[MOST_MEN];
@@ -55,8 +55,10 @@ public final class EldestSays {
     Clever[] kinds = {
       clever, new Company(), new Envious(), new Fair(), new Fool(), new Spiteful(), new Meek()
     };
-    plans = new Plans(now, kinds);
-    trialPlans = new Plans(trial, kinds);
+    plans = new Plans(kinds);
+    trialPlans = new Plans(kinds);
+    now = plans.evening;
+    trial = trialPlans.evening;
     crowd = new Crowd(clever);
   }
 
@@ -652,7 +654,7 @@ public final class EldestSays {
     final int[] ayes = new int[MOST_MEN];
     final int[] enders = new int[MOST_MEN];
     final int[] buys = new int[MOST_MEN];
-    private final Evening evening;
+    final Evening evening = new Evening();
     private final Clever[] kinds;
     private final int[] unitPrices = new int[MOST_MEN - 1];
     private final int[] unitWeights = new int[MOST_MEN - 1];
@@ -661,8 +663,7 @@ public final class EldestSays {
     private int units;
     private int freeWeight;
 
-    Plans(Evening evening, Clever[] kinds) {
-      this.evening = evening;
+    Plans(Clever[] kinds) {
       this.kinds = kinds;
     }
 
@@ -1054,15 +1055,10 @@ public final class EldestSays {
     }
 
     private static int digitsOf(char sign) {
-      switch (sign) {
-        case 'm':
-        case 'l':
-          return 3;
-        case 'c':
-          return 1;
-        default:
-          return 0;
+      if (sign == 'm' || sign == 'l') {
+        return 3;
       }
+      return sign == 'c' ? 1 : 0;
     }
 
     private static boolean isDigit(char sign) {
@@ -1090,32 +1086,27 @@ public final class EldestSays {
       int one = digit(start + 1);
       int two = digit(start + 2);
       int three = digit(start + 3);
-      switch (signs[start]) {
-        case 'm':
-          return one <= GREATEST_KIND && three >= 1 && men <= MOST_MEN && !isDone;
-        case 'l':
-          return one <= GREATEST[LAW] && two <= GREATEST[TIE] && three <= GREATEST[FIRST];
-        default:
-          return true;
+      if (signs[start] == 'm') {
+        return one <= GREATEST_KIND && three >= 1 && men <= MOST_MEN && !isDone;
       }
+      if (signs[start] == 'l') {
+        return one <= GREATEST[LAW] && two <= GREATEST[TIE] && three <= GREATEST[FIRST];
+      }
+      return true;
     }
 
     private void tellOne(Evening evening, int start, int end) {
       int one = digit(start + 1);
       int two = digit(start + 2);
       int three = digit(start + 3);
-      switch (signs[start]) {
-        case 'm':
-          evening.add(one, two, three);
-          break;
-        case 'l':
-          evening.settings[LAW] = one;
-          evening.settings[TIE] = two;
-          evening.settings[FIRST] = three;
-          break;
-        default:
-          evening.settings[COINS] = end - start == 3 ? one * 10 + two : one;
-          break;
+      if (signs[start] == 'm') {
+        evening.add(one, two, three);
+      } else if (signs[start] == 'l') {
+        evening.settings[LAW] = one;
+        evening.settings[TIE] = two;
+        evening.settings[FIRST] = three;
+      } else {
+        evening.settings[COINS] = end - start == 3 ? one * 10 + two : one;
       }
     }
 

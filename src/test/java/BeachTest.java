@@ -61,6 +61,9 @@ public final class BeachTest {
     Due.due("one man more", x.count(0), 3);
     Due.due("the youngest is the new one", x.man(2, 2), 1);
     Due.due("the others stay", x.man(1, 1), 9);
+    Due.due("votes of three by two thirds", x.bought(0), -9);
+    Due.tell(x, "l000;c20;");
+    Due.due("votes, when more has come", x.bought(0), 2);
     Due.tell(x, "c05;");
     Due.due("coins of two digits", x.set(0, 0), 5);
     Due.tell(x, "c0;");

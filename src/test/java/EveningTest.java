@@ -54,6 +54,7 @@ public final class EveningTest {
     Due.due("one more as due, with bits of nobody", x.judge(5 + 8 + 1024), -9);
     Due.due("the sayer votes no", x.judge(4), 1);
     Due.due("the sayer too votes no", x.judge(2), 1);
+    Due.due("nobody votes yes", x.judge(0), 1);
     Due.due("man 1 should vote no", x.judge(7), 2);
     Due.due("man 2 should vote yes", x.judge(1), 3);
     Due.due("both are odd: the first", x.judge(3), 2);

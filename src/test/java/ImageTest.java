@@ -15,7 +15,9 @@ public final class ImageTest {
     Due.tell(x, "m501;c33;l211;");
     x.set(4, 77);
     Due.due("says", x.says() >= 0 ? 1 : 0, 1);
+    Due.due("offered then", x.offered(2, 2), 33);
     Due.due("restore", x.restore(), 2);
+    Due.rowDue("what he offers is as it was", Due.offer(x, 0), 8, 2);
     Due.due("men", x.count(0), 2);
     Due.due("man 0", x.man(0, 0), 0);
     Due.due("man 1", x.man(1, 1), 2);

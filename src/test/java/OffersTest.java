@@ -179,6 +179,8 @@ public final class OffersTest {
     x = Due.beach("m631;m001;m001;m001;c7;");
     Due.rowDue("meek: the youngest first", Due.offer(x, 0), 1, 0, 3, 3);
     Due.due("meek: no set", x.bought(0), -9);
+    x.set(0, 19);
+    Due.rowDue("meek: the rest he keeps", Due.offer(x, 0), 10, 3, 3, 3);
     x = Due.beach("m401;m001;m001;c7;");
     Due.rowDue("fool who gives nothing", Due.offer(x, 0), 7, 0, 0);
   }

@@ -93,6 +93,13 @@ public final class WhatIfTest {
     Due.refusalsDue(x, 0, 0, 2, 0, 0);
     Due.due("three by half", Due.beach("m001;m001;m001;").fewest(), 1);
     Due.due("a fool's price", Due.beach("m001;m479;").fewest(), 7);
+    Due.due("five of seven", Due.beach("m001;m489;m489;m489;m499;m499;m499;m499;l200;").fewest(), 42);
+    x = Due.beach("m574;m599;m395;m051;m592;m591;m593;l200;");
+    Due.due("all coins that there can be", x.fewest(), 99);
+    x.set(0, 98);
+    Due.due("one less", x.carries(0), 0);
+    x.set(0, 99);
+    Due.due("just as many", x.carries(0), 1);
     Due.due("a dear set", Due.beach("m001;m491;m491;m491;m491;l200;").fewest(), 27);
   }
 
@@ -105,6 +112,7 @@ public final class WhatIfTest {
       Due.due("by half with tie", x.byLaw(0, 1, j), tied[j]);
       Due.due("by the same law", x.byLaw(0, 0, j), x.gets(0, j));
     }
+    Due.due("by two thirds", x.byLaw(2, 0, 0), 10);
     Due.due("the law is as it was", x.set(1, 0), 0);
     Due.due("law 3", x.byLaw(3, 0, 0), Due.REFUSED + 2);
     Due.due("law -1", x.byLaw(-1, 0, 0), Due.REFUSED + 2);
@@ -140,6 +148,7 @@ public final class WhatIfTest {
     Due.due("nothing has changed", x.count(1), 1);
     Due.due("the men too", x.count(0), 2);
     // The man more weighs 1 and figures as a clever one.
+    Due.due("who gets as much as before gains nothing", Due.beach("m001;c0;").gains(), 0);
     Due.due("heavy ones", Due.beach("m009;m009;").gains(), 2);
     Due.due("eight men", Due.beach("m001;m001;m001;m001;m001;m001;m001;m001;").gains(), 0);
     Due.due("seven men", Due.beach("m001;m001;m001;m001;m001;m001;m001;").gains(), 42);
@@ -148,6 +157,7 @@ public final class WhatIfTest {
 
   private static void swap() {
     EldestSays x = Due.beach("m123;m698;m431;");
+    Due.due("bought before", x.bought(0) != -9 ? 1 : 0, 1);
     Due.due("swap", x.swap(0, 2), 1);
     int[][] men = {{4, 3, 1}, {6, 9, 8}, {1, 2, 3}};
     for (int j = 0; j < 3; j++) {
@@ -183,6 +193,11 @@ public final class WhatIfTest {
     Due.due("by more the youngest", x.bestAge(0), 1);
     Due.due("the clever one too", x.bestAge(1), 1);
     Due.due("nothing has changed", x.man(0, 0), 6);
+    // Whoever sits before the heavy one is put ashore.
+    x = Due.beach("m001;m301;m009;");
+    Due.due("the heavy one", x.bestAge(2), 0);
+    Due.due("a light one: behind the heavy one", x.bestAge(0), 2);
+    Due.due("the fair one: likewise", x.bestAge(1), 2);
     Due.due("of several the least", Due.beach("m301;m301;").bestAge(1), 0);
     x = Due.beach("m001;m001;l100;");
     Due.due("one ashore", x.says(), 0);
