@@ -72,13 +72,8 @@ public final class BeachTest {
     Due.due("most coins", x.set(0, 0), 99);
     Due.tell(x, "m001;m001;m001;m001;m001;");
     Due.due("eight men", x.count(0), 8);
-    Due.due("full text", fault(x, "c1;c1;c1;c1;c1;c1;c1;c1;c1;c1;c1;c1;c1;c1;c1;c1;c1;c1;c1;c1;c22;"), 21);
+    Due.due("full text", Due.told(x, "c1;c1;c1;c1;c1;c1;c1;c1;c1;c1;c1;c1;c1;c1;c1;c1;c1;c1;c1;c1;c22;"), 21);
     Due.refusalsDue(x, 0, 0, 0, 0, 0);
-  }
-
-  private static int fault(EldestSays x, String text) {
-    Due.feed(x, text);
-    return x.beach();
   }
 
   private static void brokenBeaches() {
@@ -94,7 +89,7 @@ public final class BeachTest {
       3, 3, 3, 5, 5, 10, 2, 1, 3,
     };
     for (int k = 0; k < texts.length; k++) {
-      Due.due("broken " + texts[k], fault(x, texts[k]), -1000 - places[k]);
+      Due.due("broken " + texts[k], Due.told(x, texts[k]), -1000 - places[k]);
       Due.due("letters after it", x.count(4), 0);
     }
     for (int k = 0; k < 64; k++) {
@@ -117,27 +112,27 @@ public final class BeachTest {
     };
     int[] places = {0, 0, 0, 0, 0, 0, 0, 0, 3, 9, 30};
     for (int k = 0; k < texts.length; k++) {
-      Due.due("wrong " + texts[k], fault(x, texts[k]), -2000 - places[k]);
+      Due.due("wrong " + texts[k], Due.told(x, texts[k]), -2000 - places[k]);
     }
-    Due.due("a ninth man alone comes to", fault(x, "m001;m001;m001;m001;m001;m001;m001;"), -2030);
+    Due.due("a ninth man alone comes to", Due.told(x, "m001;m001;m001;m001;m001;m001;m001;"), -2030);
     Due.due("nothing came of them", x.count(0), 2);
     Due.due("coins", x.set(0, 10), 10);
     Due.due("law", x.set(1, 0), 0);
     Due.tell(x, "m001;m001;m001;m001;m001;m001;");
-    Due.due("a ninth man", fault(x, "c3;m001;"), -2003);
+    Due.due("a ninth man", Due.told(x, "c3;m001;"), -2003);
     Due.due("eight stay", x.count(0), 8);
   }
 
   private static void beachWhenDone() {
     EldestSays x = Due.beach("m001;");
     Due.due("says", x.says(), 1);
-    Due.due("no man more when done", fault(x, "c7;m001;"), -2003);
+    Due.due("no man more when done", Due.told(x, "c7;m001;"), -2003);
     Due.due("nor coins with it", x.set(0, 10), 10);
-    Due.due("but coins and laws", fault(x, "c7;l211;"), 2);
+    Due.due("but coins and laws", Due.told(x, "c7;l211;"), 2);
     Due.due("coins", x.set(0, 10), 7);
     x = Due.beach("m001;m001;l100;");
     Due.due("one goes ashore", x.says(), 0);
-    Due.due("a man more while it goes on", fault(x, "m001;"), 1);
+    Due.due("a man more while it goes on", Due.told(x, "m001;"), 1);
     Due.due("men", x.count(0), 3);
     Due.due("the sayer", x.count(1), 1);
   }

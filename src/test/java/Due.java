@@ -1,7 +1,14 @@
+import java.io.IOException;
+import java.nio.file.Files;
+import java.nio.file.Path;
+
 /** What every test here uses: due answers compared, beaches fed, the end of a test. */
 final class Due {
   static final int REFUSED = 1000000000;
   static final long REFUSED_LONG = 4000000000000000000L;
+  private static final Path DOCUMENT = Path.of("../shared/DOC.md");
+  private static String document = "";
+  private static String sentence = "";
   private static int wrong = 0;
   private static int looked = 0;
 
@@ -11,8 +18,26 @@ final class Due {
     looked++;
     if (got != want) {
       wrong++;
-      System.out.println(call + " answered " + got + ", due is " + want);
+      String by = sentence.isEmpty() ? "" : " (by: " + sentence + ")";
+      System.out.println(call + " answered " + got + ", due is " + want + by);
     }
+  }
+
+  /** The words by which the answers after this are due; they must stand in the document. */
+  static void by(String words) {
+    sentence = words;
+    due("these words in the document", document().contains(words) ? 1 : 0, 1);
+  }
+
+  private static String document() {
+    if (document.isEmpty()) {
+      try {
+        document = Files.readString(DOCUMENT);
+      } catch (IOException missing) {
+        throw new IllegalStateException("no document at " + DOCUMENT, missing);
+      }
+    }
+    return document;
   }
 
   static void rowDue(String call, int[] got, int... want) {
@@ -42,6 +67,29 @@ final class Due {
     }
     feed(x, text);
     due("beach " + text, x.beach(), statements);
+  }
+
+  /** What a text answers, with or without a fault. */
+  static int told(EldestSays x, String text) {
+    feed(x, text);
+    return x.beach();
+  }
+
+  static void tellRow(EldestSays x, int... coins) {
+    x.clear();
+    for (int k = 0; k < coins.length; k++) {
+      due("row(" + coins[k] + ")", x.row(coins[k]), k + 1);
+    }
+  }
+
+  /** The sayer keeps all, and nobody votes yes. */
+  static void putAshore(EldestSays x) {
+    int coins = x.set(0, 10);
+    int[] row = new int[x.count(0) - x.count(1)];
+    row[0] = 10;
+    tellRow(x, row);
+    due("he is put ashore", x.goes(0), 0);
+    x.set(0, coins);
   }
 
   static int[] offer(EldestSays x, int i) {

@@ -14,13 +14,6 @@ public final class EveningTest {
     Due.end();
   }
 
-  private static void tellRow(EldestSays x, int... coins) {
-    x.clear();
-    for (int k = 0; k < coins.length; k++) {
-      Due.due("row(" + coins[k] + ")", x.row(coins[k]), k + 1);
-    }
-  }
-
   private static void row() {
     EldestSays x = new EldestSays();
     Due.due("row(-1)", x.row(-1), -4);
@@ -41,15 +34,15 @@ public final class EveningTest {
   private static void judge() {
     EldestSays x = Due.beach("m001;m001;m001;");
     Due.due("no row", x.judge(1), 0);
-    tellRow(x, 9, 1);
+    Due.tellRow(x, 9, 1);
     Due.due("too short", x.judge(1), 0);
-    tellRow(x, 9, 0, 1, 0);
+    Due.tellRow(x, 9, 0, 1, 0);
     Due.due("too long", x.judge(1), 0);
-    tellRow(x, 9, 0, 0);
+    Due.tellRow(x, 9, 0, 0);
     Due.due("too few coins", x.judge(1), 0);
-    tellRow(x, 9, 1, 1);
+    Due.tellRow(x, 9, 1, 1);
     Due.due("too many coins", x.judge(1), 0);
-    tellRow(x, 9, 0, 1);
+    Due.tellRow(x, 9, 0, 1);
     Due.due("all as due", x.judge(5), -9);
     Due.due("one more as due, with bits of nobody", x.judge(5 + 8 + 1024), -9);
     Due.due("the sayer votes no", x.judge(4), 1);
@@ -61,10 +54,10 @@ public final class EveningTest {
     Due.due("below 0", x.judge(-1), -4);
     Due.due("the row stays", x.count(5), 3);
     Due.refusalsDue(x, 0, 0, 0, 1, 0);
-    tellRow(x, 0, 10, 0);
+    Due.tellRow(x, 0, 10, 0);
     Due.due("ten are not enough for man 1", x.judge(1), -9);
     x.set(0, 99);
-    tellRow(x, 0, 99, 0);
+    Due.tellRow(x, 0, 99, 0);
     Due.due("coins count as they are set", x.judge(1), -9);
     EldestSays y = new EldestSays();
     Due.due("no men", y.judge(0), -3);
@@ -77,9 +70,9 @@ public final class EveningTest {
 
   private static void judgeLater() {
     EldestSays x = Due.beach("m001;m001;m001;m001;");
-    tellRow(x, 10, 0, 0, 0);
+    Due.tellRow(x, 10, 0, 0, 0);
     Due.due("not carried", x.goes(1), 0);
-    tellRow(x, 9, 0, 1);
+    Due.tellRow(x, 9, 0, 1);
     Due.due("bits are by men, not by places", x.judge(2 + 8), -9);
     Due.due("the place in the row", x.judge(2), 3);
     Due.due("the new sayer", x.judge(8), 1);
@@ -88,7 +81,7 @@ public final class EveningTest {
 
   private static void goesCarried() {
     EldestSays x = Due.beach("m001;m001;m001;");
-    tellRow(x, 2, 3, 5);
+    Due.tellRow(x, 2, 3, 5);
     Due.due("votes as told", x.goes(6), 1);
     Due.due("done", x.count(2), 1);
     Due.due("the row has none", x.count(5), 0);
@@ -98,32 +91,32 @@ public final class EveningTest {
     Due.due("got(2)", x.got(2), 5);
     Due.due("weights left", x.count(3), 3);
     x = Due.beach("m001;m002;m003;l200;");
-    tellRow(x, 2, 3, 5);
+    Due.tellRow(x, 2, 3, 5);
     Due.due("four of six is two thirds", x.goes(5), 1);
     x = Due.beach("m001;m002;m003;l200;");
-    tellRow(x, 2, 3, 5);
+    Due.tellRow(x, 2, 3, 5);
     Due.due("three of six is not, nor bits of nobody", x.goes(3 + 8), 0);
   }
 
   private static void goesAshore() {
     EldestSays x = Due.beach("m001;m002;m003;");
-    tellRow(x, 10, 0, 0);
+    Due.tellRow(x, 10, 0, 0);
     Due.due("one of six", x.goes(1), 0);
     Due.due("not done", x.count(2), 0);
     Due.due("the next one says", x.count(1), 1);
     Due.due("weights left", x.count(3), 5);
     Due.due("the row has none", x.count(5), 0);
-    tellRow(x, 4, 6);
+    Due.tellRow(x, 4, 6);
     Due.due("the vote of one ashore is not counted", x.goes(1 + 2), 0);
-    tellRow(x, 10);
+    Due.tellRow(x, 10);
     Due.due("the last one", x.goes(4), 1);
     Due.due("got(0)", x.got(0), -1);
     Due.due("got(1)", x.got(1), -1);
     Due.due("got(2)", x.got(2), 10);
     x = Due.beach("m001;m002;m003;");
-    tellRow(x, 10, 0, 0);
+    Due.tellRow(x, 10, 0, 0);
     Due.due("again", x.goes(1), 0);
-    tellRow(x, 4, 6);
+    Due.tellRow(x, 4, 6);
     Due.due("bits are by men", x.goes(4), 1);
     Due.due("got from place 0", x.got(1), 4);
     Due.due("got from place 1", x.got(2), 6);
@@ -134,18 +127,18 @@ public final class EveningTest {
     Due.due("no men", x.goes(-1), -3);
     Due.tell(x, "m001;m001;");
     Due.due("no row", x.goes(3), -3);
-    tellRow(x, 10);
+    Due.tellRow(x, 10);
     Due.due("too short", x.goes(3), -3);
-    tellRow(x, 10, 0, 0);
+    Due.tellRow(x, 10, 0, 0);
     Due.due("too long", x.goes(3), -3);
-    tellRow(x, 9, 0);
+    Due.tellRow(x, 9, 0);
     Due.due("too few coins", x.goes(-1), -3);
     Due.due("the row stays", x.count(5), 2);
-    tellRow(x, 9, 1);
+    Due.tellRow(x, 9, 1);
     Due.due("below 0", x.goes(-1), -4);
     Due.due("the row stays", x.count(5), 2);
     Due.due("carried", x.goes(3), 1);
-    tellRow(x, 9, 1);
+    Due.tellRow(x, 9, 1);
     Due.due("done", x.goes(3), -3);
     Due.due("the row stays", x.count(5), 2);
     Due.refusalsDue(x, 0, 0, 6, 1, 0);
@@ -175,14 +168,14 @@ public final class EveningTest {
 
   private static void saysLeavesTheRow() {
     EldestSays x = Due.beach("m001;m001;l100;");
-    tellRow(x, 5, 5);
+    Due.tellRow(x, 5, 5);
     Due.due("says", x.says(), 0);
     Due.due("the row stays", x.count(5), 2);
   }
 
   private static void lastManAshore() {
     EldestSays x = Due.beach("m004;");
-    tellRow(x, 10);
+    Due.tellRow(x, 10);
     Due.due("he votes no himself", x.goes(0), 0);
     Due.due("done", x.count(2), 1);
     Due.due("no next sayer", x.count(1), 0);
@@ -190,7 +183,7 @@ public final class EveningTest {
     Due.due("got", x.got(0), -1);
     Due.due("says", x.says(), -3);
     x = Due.beach("m004;");
-    tellRow(x, 10);
+    Due.tellRow(x, 10);
     Due.due("he votes yes", x.goes(1), 1);
     Due.due("he is left", x.count(3), 4);
   }
@@ -200,7 +193,7 @@ public final class EveningTest {
     Due.due("not done", x.got(1), 0);
     Due.due("got(3)", x.got(3), Due.REFUSED + 1);
     Due.due("got(-1)", x.got(-1), Due.REFUSED + 1);
-    tellRow(x, 10, 0, 0);
+    Due.tellRow(x, 10, 0, 0);
     Due.due("goes", x.goes(1), 0);
     Due.due("ashore before it is done", x.got(0), -1);
     Due.due("not done, not ashore", x.got(1), 0);

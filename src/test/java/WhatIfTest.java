@@ -42,10 +42,9 @@ public final class WhatIfTest {
   }
 
   private static void alikeLikeABeach() {
-    EldestSays x = new EldestSays();
     for (int n = 1; n <= 8; n++) {
-      Due.tell(x, "m001;");
       for (int setting = 0; setting < 12; setting++) {
+        EldestSays x = Due.beach("m001;".repeat(n));
         x.set(1, setting % 3);
         x.set(2, setting / 3 % 2);
         x.set(3, setting / 6);
@@ -230,21 +229,13 @@ public final class WhatIfTest {
     x = Due.beach("m002;m411;m411;");
     Due.due("he needs none", x.league(6), 1);
     x = Due.beach("m001;m491;m491;m411;m411;");
-    tellAshore(x);
+    Due.putAshore(x);
     Due.due("from the sayer on", x.league(24), 1);
     Due.due("the coins pay for one of the two", x.league(12), 1);
     x.set(1, 2);
     Due.due("by two thirds the coins pay for the league alone", x.league(12), 1);
     x.set(0, 9);
     Due.due("and no longer", x.league(12), 0);
-  }
-
-  private static void tellAshore(EldestSays x) {
-    x.row(10);
-    for (int k = 1; k < x.count(0); k++) {
-      x.row(0);
-    }
-    Due.due("the eldest is put ashore", x.goes(0), 0);
   }
 
   private static void leagueRefused() {
@@ -256,7 +247,7 @@ public final class WhatIfTest {
       Due.due("league(" + men + ")", x.league(men), -1);
     }
     Due.refusalsDue(x, wrong.length, 0, 1, 0, 0);
-    tellAshore(x);
+    Due.putAshore(x);
     Due.due("the sayer himself", x.league(6), -1);
     Due.due("done", x.says(), 1);
     Due.due("when it is done", x.league(6), -3);
