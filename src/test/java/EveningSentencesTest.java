@@ -9,6 +9,7 @@ public final class EveningSentencesTest {
     gets();
     bought();
     row();
+    votesAsBits();
     rowIsNotAsMany();
     rowIsNotCoinsTogether();
     firstManWhoVotesOtherwise();
@@ -119,6 +120,18 @@ public final class EveningSentencesTest {
     Due.due("from the sayer on", x.goes(6), 1);
     Due.due("the sayer", x.got(1), 7);
     Due.due("the next", x.got(2), 3);
+  }
+
+  private static void votesAsBits() {
+    Due.by("VOTES as bits with it");
+    EldestSays x = Due.beach("m001;m431;m431;m431;");
+    Due.tellRow(x, 4, 3, 0, 3);
+    Due.due("what votes() answers is what is due", x.votes(0), 1 + 2);
+    Due.due("bits of who is paid", x.judge(1 + 2 + 8), -9);
+    Due.putAshore(x);
+    Due.tellRow(x, 7, 0, 3);
+    Due.due("the same man has the same bit", x.judge(2 + 8), -9);
+    Due.due("what the fool says has all votes", x.votes(1), 2 + 4 + 8);
   }
 
   private static void rowIsNotAsMany() {

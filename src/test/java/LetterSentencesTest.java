@@ -159,7 +159,7 @@ public final class LetterSentencesTest {
   }
 
   private static void theFirstWrongStatement() {
-    Due.by("the first letter of the first STATEMENT that is not as it must be");
+    Due.by("a man more when it is DONE): -2000 less the place");
     EldestSays x = new EldestSays();
     Due.due("the second", Due.told(x, "c1;m000;"), -2003);
     Due.due("the third", Due.told(x, "c10;m001;l002;"), -2009);

@@ -38,7 +38,15 @@ public final class RefusalSentencesTest {
     shaken();
     seeds();
     restore();
+    theFirstThatFits();
+    nobody();
+    other();
+    state();
+    below();
+    room();
+    lessThem();
     thoseWhoNeverRefuse();
+    gains();
     howManyThereWere();
     Due.end();
   }
@@ -480,6 +488,109 @@ public final class RefusalSentencesTest {
     refused("restore() of none", RefusalSentencesTest::empty, -3, o -> o.restore());
     refused("restore() with men", RefusalSentencesTest::fullRow, -3, o -> o.restore());
     refused("restore() done", RefusalSentencesTest::nobodyLeft, -3, o -> o.restore());
+  }
+
+  private static void theFirstThatFits() {
+    Due.by("the first that fits in the order in which it tells them");
+    refused("nobody, other", RefusalSentencesTest::going, -1, o -> o.man(9, 9));
+    refused("other, below", RefusalSentencesTest::going, -2, o -> o.set(9, -1));
+    refused("other, room", RefusalSentencesTest::going, -2, o -> o.set(9, 100));
+    refused("state, below: judge", RefusalSentencesTest::done, -3, o -> o.judge(-1));
+    refused("state, below: goes", RefusalSentencesTest::withoutRow, -3, o -> o.goes(-1));
+    refusedInt("below, room: k, n", RefusalSentencesTest::going, -4, o -> o.alike(61, 5, -1, true));
+    refusedInt("below, room: c, n", RefusalSentencesTest::going, -4, o -> o.alike(61, -1, 0, true));
+    refusedInt("other, nobody", RefusalSentencesTest::going, -2, o -> o.byLaw(3, 0, 9));
+    refusedInt("other, state", RefusalSentencesTest::done, -2, o -> o.byLaw(0, 2, 1));
+    refusedInt("nobody, state", RefusalSentencesTest::done, -1, o -> o.byLaw(0, 0, 9));
+    refused("nobody, state: swap", RefusalSentencesTest::done, -1, o -> o.swap(1, 1));
+    refused("state, nobody: league", RefusalSentencesTest::done, -3, o -> o.league(1));
+    refusedLong("other, state: shaken", RefusalSentencesTest::done, -2, o -> o.shaken(2));
+    refused("nobody, below: seeds", RefusalSentencesTest::going, -1, o -> o.seeds(9, 0, 0));
+    refused("nobody, room: seeds", RefusalSentencesTest::going, -1, o -> o.seeds(9, 31, 0));
+    refused("below, room: feed", RefusalSentencesTest::fullOfLetters, -4, o -> o.feed(-1));
+    refused("below, room: row", RefusalSentencesTest::fullRow, -4, o -> o.row(-1));
+  }
+
+  private static void nobody() {
+    Due.by("-1 NOBODY: no such man.");
+    refused("no man 8", RefusalSentencesTest::fullRow, -1, o -> o.votes(8));
+    refused("no man -1", RefusalSentencesTest::fullRow, -1, o -> o.votes(-1));
+    Due.due("man 0", fullRow().votes(0) >= 0 ? 1 : 0, 1);
+    Due.due("man 7", fullRow().votes(7), 128);
+  }
+
+  private static void other() {
+    Due.by("-2 OTHER: what, LAW, TIE.");
+    refused("what of a man", RefusalSentencesTest::going, -2, o -> o.man(0, 3));
+    refused("what of a setting", RefusalSentencesTest::going, -2, o -> o.set(5, 0));
+    refusedLong("what of a fraction", RefusalSentencesTest::going, -2, o -> o.shaken(2));
+    refusedInt("law", RefusalSentencesTest::going, -2, o -> o.byLaw(3, 1, 0));
+    refusedInt("tie", RefusalSentencesTest::going, -2, o -> o.byLaw(2, 2, 0));
+    Due.due("the greatest of both", going().byLaw(2, 1, 0) < Due.REFUSED ? 1 : 0, 1);
+  }
+
+  private static void state() {
+    Due.by("-3 STATE: it is not as told (there are no MEN, it is DONE, too).");
+    List<Supplier<EldestSays>> over = List.of(RefusalSentencesTest::empty, RefusalSentencesTest::done,
+        RefusalSentencesTest::doneAtOnce, RefusalSentencesTest::nobodyLeft);
+    for (Supplier<EldestSays> made : over) {
+      refused("judge", made, -3, o -> o.judge(0));
+      refused("goes", made, -3, o -> o.goes(0));
+      refused("says", made, -3, o -> o.says());
+      refused("fewest", made, -3, o -> o.fewest());
+      refused("league", made, -3, o -> o.league(6));
+      refusedLong("shaken", made, -3, o -> o.shaken(0));
+    }
+    Due.due("one man is enough: judge", Due.beach("m001;").judge(0), 0);
+    Due.due("one man is enough: fewest", Due.beach("m001;").fewest(), 0);
+    Due.due("one man is enough: shaken", Due.beach("m001;").shaken(0), 1);
+    Due.due("one man is enough: says", Due.beach("m001;").says(), 1);
+  }
+
+  private static void below() {
+    Due.by("-4 BELOW: a number below the least.");
+    refused("a letter", RefusalSentencesTest::going, -4, o -> o.feed(-1));
+    refused("a setting", RefusalSentencesTest::going, -4, o -> o.set(0, -1));
+    refused("coins of the row", RefusalSentencesTest::going, -4, o -> o.row(-1));
+    refused("votes judged", RefusalSentencesTest::going, -4, o -> o.judge(-1));
+    refused("votes that decide", RefusalSentencesTest::going, -4, o -> o.goes(-1));
+    refusedInt("alike men", RefusalSentencesTest::going, -4, o -> o.alike(0, 0, 0, true));
+    refused("evenings", RefusalSentencesTest::going, -4, o -> o.seeds(0, 0, 0));
+  }
+
+  private static void room() {
+    Due.by("-6 ROOM: a number above the greatest, no room.");
+    refused("a letter", RefusalSentencesTest::going, -6, o -> o.feed(256));
+    refused("letters", RefusalSentencesTest::fullOfLetters, -6, o -> o.feed('c'));
+    refused("a setting", RefusalSentencesTest::going, -6, o -> o.set(0, 100));
+    refused("coins of the row", RefusalSentencesTest::going, -6, o -> o.row(100));
+    refused("the row", RefusalSentencesTest::fullRow, -6, o -> o.row(1));
+    refusedInt("alike men", RefusalSentencesTest::going, -6, o -> o.alike(61, 0, 0, true));
+    refused("evenings", RefusalSentencesTest::going, -6, o -> o.seeds(0, 31, 0));
+  }
+
+  private static void lessThem() {
+    Due.by("Of gets(), got(), byLaw(), alike() 1000000000 less them");
+    EldestSays x = done();
+    Due.due("gets", x.gets(4, 4), 1000000001);
+    Due.due("got", x.got(4), 1000000001);
+    Due.due("byLaw, nobody", x.byLaw(0, 0, 4), 1000000001);
+    Due.due("byLaw, other", x.byLaw(3, 0, 4), 1000000002);
+    Due.due("byLaw, state", x.byLaw(0, 0, 3), 1000000003);
+    Due.due("alike, below", x.alike(0, 0, 0, true), 1000000004);
+    Due.due("alike, room", x.alike(61, 0, 0, true), 1000000006);
+    Due.by("of longs 4000000000000000000 less them");
+    Due.due("shaken, other", x.shaken(2), 4000000000000000002L);
+    Due.due("shaken, state", x.shaken(1), 4000000000000000003L);
+  }
+
+  private static void gains() {
+    Due.by("GAINS (bits).");
+    Due.due("without men", empty().gains(), 0);
+    int due = Due.beach("m001;m432;m121;m501;").gains();
+    Due.due("while it goes on", going().gains(), due);
+    Due.due("when one is ashore", oneAshore().gains(), due);
+    Due.due("when it is done", done().gains(), due);
   }
 
   private static void thoseWhoNeverRefuse() {

@@ -5,6 +5,7 @@ public final class WhatIfSentencesTest {
   public static void main(String[] args) {
     alike();
     alikeAsTheyAre();
+    alikeWhetherTheEldestCarries();
     alikeWhatTheKthGets();
     fewest();
     fewestNone();
@@ -86,6 +87,17 @@ public final class WhatIfSentencesTest {
         int due = k == 0 ? 99 - (n - 1) / 2 : k % 2 == 0 ? 1 : 0;
         Due.due("first " + first + ", men " + n + ", the " + k, x.alike(n, 99, k, false), due);
       }
+    }
+  }
+
+  private static void alikeWhetherTheEldestCarries() {
+    Due.by("whether the eldest carries it (1, 0)");
+    EldestSays x = new EldestSays();
+    // Twice the coins and two men are carried, and then at each power of two more.
+    for (int n = 1; n <= 60; n++) {
+      boolean carried = n <= 8 || n == 10 || n == 14 || n == 22 || n == 38;
+      Due.due("three coins, men " + n, x.alike(n, 3, 0, true), carried ? 1 : 0);
+      Due.due("whichever is asked for, men " + n, x.alike(n, 3, n - 1, true), carried ? 1 : 0);
     }
   }
 
