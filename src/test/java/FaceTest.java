@@ -16,6 +16,7 @@ import java.util.regex.Pattern;
 /** The public face of the document, and the rules of LANGUAGE.md that a look can tell. */
 public final class FaceTest {
   private static final Path SOURCE = Path.of("src/main/java/EldestSays.java");
+  private static final Path DOCUMENT = Path.of("../shared/DOC.md");
   private static final String[] FACE = {
     "int feed(int)", "int beach()", "int man(int, int)", "int set(int, int)",
     "int offered(int, int)", "int price(int, int)", "int votes(int)", "int carries(int)",
@@ -34,10 +35,24 @@ public final class FaceTest {
   };
 
   public static void main(String[] args) throws IOException {
+    listed(Files.readString(DOCUMENT));
     face();
     members();
     source(withoutComments(Files.readString(SOURCE)));
     Due.end();
+  }
+
+  /** The list above is the document's own: its block of the face, without names of arguments. */
+  private static void listed(String document) {
+    Set<String> want = new TreeSet<>();
+    Matcher line = Pattern.compile("\n    public (\\w+ \\w+\\(.*\\));").matcher(document);
+    while (line.find()) {
+      want.add(line.group(1).replaceAll("(int|boolean) \\w+([,)])", "$1$2"));
+    }
+    Set<String> lacking = new TreeSet<>(want);
+    lacking.removeAll(List.of(FACE));
+    Due.due("of the document's face, not listed " + lacking, lacking.size(), 0);
+    Due.due("as many as the document has", FACE.length, want.size());
   }
 
   private static void face() {
